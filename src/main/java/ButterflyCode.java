@@ -485,7 +485,8 @@ public final class ButterflyCode {
 
   /** What a sum adds to a metric if the bit is this one. */
   private static int penalty(int sum, int bit) {
-    return Math.max(0, bit == 0 ? -sum : sum);
+    int against = bit == 0 ? -sum : sum;
+    return against > 0 ? against : 0;
   }
 
   private static int leftSum(int a, int b) {
@@ -981,7 +982,7 @@ public final class ButterflyCode {
       rightWork = 0;
       decided = 0;
       paths.addFirst();
-      System.arraycopy(heard, 0, sums, rowStart(code.m, 0), code.n);
+      System.arraycopy(heard, 0, sums, ownStart(code.m, 0), code.n);
       int channel = 0;
       for (int turn = 0; turn < MOST_CHANNELS && channel < code.n; turn++) {
         channel += readNodes(channel);
@@ -989,12 +990,15 @@ public final class ButterflyCode {
       choose();
     }
 
-    private static int rowStart(int level, int row) {
-      return MOST_PATHS * ((1 << level) - 1) + (row << level);
+    /** Where a path's own row lies, the one that it reckons anew. */
+    private static int ownStart(int level, int path) {
+      return MOST_PATHS * ((1 << level) - 1) + (path << level);
     }
 
+    /** Where the row lies that a path goes by: its own, or that of one it came from. */
     private int pathStart(int level, int path) {
-      return rowStart(level, paths.rows[level * MOST_PATHS + path]);
+      int row = paths.rows[level * MOST_PATHS + path];
+      return MOST_PATHS * ((1 << level) - 1) + (row << level);
     }
 
     /** Goes down all nodes that begin with a channel: how many channels are read then. */
@@ -1020,7 +1024,7 @@ public final class ButterflyCode {
       int size = 1 << level;
       for (int p = 0; p < paths.count; p++) {
         int from = pathStart(level + 1, p);
-        int to = rowStart(level, p);
+        int to = ownStart(level, p);
         for (int j = 0; j < size; j++) {
           sums[to + j] = leftSum(sums[from + j], sums[from + size + j]);
         }
@@ -1033,7 +1037,7 @@ public final class ButterflyCode {
       int size = 1 << level;
       for (int p = 0; p < paths.count; p++) {
         int from = pathStart(level + 1, p);
-        int to = rowStart(level, p);
+        int to = ownStart(level, p);
         long left = butterfly(paths.bits[p] >>> channel - size & lowBits(size), level);
         for (int j = 0; j < size; j++) {
           sums[to + j] = rightSum(sums[from + j], sums[from + size + j], left >>> j & 1L);
