@@ -819,9 +819,10 @@ public final class ButterflyCode {
       }
     }
 
+    /** A channel behind the 64th can't rise any more, so the last turn always ends with a fault. */
     private void parseInfo() {
       int least = 0;
-      for (int i = 0; i < MOST_CHANNELS && fault == 0; i++) {
+      for (int i = 0; i <= MOST_CHANNELS; i++) {
         int channel = number(least, told.n - 1);
         if (fault != 0) {
           return;
@@ -834,15 +835,13 @@ public final class ButterflyCode {
         }
         place++;
       }
-      // A comma behind the 64th channel asks for one that can't rise any more.
-      number(least, told.n - 1);
     }
 
     private boolean atDigit() {
       return place < length && bytes[place] >= '0' && bytes[place] <= '9';
     }
 
-    /** What it answers counts only without a fault. */
+    /** What it answers counts only without a fault; it stays small however long the digits go on. */
     private int number(int least, int most) {
       if (fault != 0) {
         return 0;
@@ -854,7 +853,7 @@ public final class ButterflyCode {
         return 0;
       }
       int value = 0;
-      while (atDigit()) {
+      while (place < length && atDigit()) {
         value = Math.min(GREAT_NUMBER, 10 * value + bytes[place] - '0');
         place++;
       }

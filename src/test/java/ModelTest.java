@@ -44,6 +44,22 @@ public final class ModelTest {
     for (int i = 0; i < CALLS && wrong == 0; i++) {
       call(between(0, 33));
     }
+    seekAmongLikeOnes();
+  }
+
+  /** Sums of 0 and 1 alone: many beginnings and paths are alike, so their order is asked. */
+  private void seekAmongLikeOnes() {
+    for (int i = 0; i < model.count(0); i++) {
+      int sum = between(-1, 1);
+      same("tell", code.tell(i, sum), model.tell(i, sum));
+    }
+    same("like ones: sought(0)", code.sought(0), model.sought(0));
+    same("like ones: sought(1)", code.sought(1), model.sought(1));
+    same("like ones: soughtMessage()", code.soughtMessage(), model.soughtMessage());
+    for (int k = 0; k < 8; k++) same("like ones: message(" + k + ")", code.message(k), model.message(k));
+    for (int list = 1; list <= 8; list++) {
+      same("cut short, metrics are the same", code.work(list, true, 3), code.work(list, false, 3));
+    }
   }
 
   private void tellCode(String text) {

@@ -166,9 +166,7 @@ public final class PromisesTest {
     due("E", x.count(4), 1);
     due("L", x.count(5), 1);
     due("all of 8 bits", tellCode(x, "size 4;check 8 0;keep 8"), 16);
-    StringBuilder all = new StringBuilder("size 6;info 0");
-    for (int i = 1; i < 64; i++) all.append(",").append(i);
-    due("all channels", tellCode(x, all.toString()), 64);
+    due("all channels", tellCode(x, "size 6;info " + allChannels()), 64);
     due("all channels: K", x.count(1), 64);
     sums(x, 4, 5, 6);
     tellCode(x, "size 2;keep 2");
@@ -249,6 +247,32 @@ public final class PromisesTest {
     fault("size 2;keep -1", 12, 1);
     fault("size 2;keep\t1", 11, 1);
     fault("size 9;kepp", 5, 2);
+    fault("xize 2;keep 1", 0, 1);
+    fault("size 2;xeep 1", 7, 1);
+    fault("size 6;info " + allChannels() + ",", 194, 1);
+    fault("size 6;info " + allChannels() + ",5", 194, 2);
+    fault("size 6;info " + allChannels() + ",64", 194, 2);
+    fault("size 6;info " + allChannels() + ";", 194, 1);
+    cutFault("size 2;keepx 1", 11, 11, 1);
+    cutFault("size 2; keep 1", 8, 8, 1);
+    cutFault("size 2;info 1,2;check 1 1", 13, 13, 0);
+    cutFault("size 2;keep 1;x", 13, 13, 0);
+    cutFault("size 2;keep 15", 13, 13, 0);
+    cutFault("size 2;info 1,,", 14, 14, 1);
+  }
+
+  private static String allChannels() {
+    StringBuilder all = new StringBuilder("0");
+    for (int i = 1; i < 64; i++) all.append(",").append(i);
+    return all.toString();
+  }
+
+  /** What lay on the tape behind its end is not read; kind 0: there is no fault. */
+  private static void cutFault(String text, int end, int place, int kind) {
+    ButterflyCode x = none();
+    put(x, text);
+    x.end(end);
+    due("fault of " + end + " of '" + text + "'", x.code(), kind == 0 ? 4 : -2 - (8 * place + kind));
   }
 
   private static void promise5Goodness() {
