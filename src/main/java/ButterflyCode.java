@@ -1114,7 +1114,6 @@ public final class ButterflyCode {
       int other = sum < 0 ? 0 : 1;
       paths.bits[0] |= (long) other << channel;
       paths.metrics[0] += penalty(sum, other);
-      trace.put(channel, 0, paths.metrics[0], other);
     }
 
     private void split(int channel) {
@@ -1303,7 +1302,10 @@ public final class ButterflyCode {
       long bits = beginnings[held];
       int at = 0;
       int child = firstChild(at);
-      while (child < held && isAhead(keys[child], beginnings[child], key, bits)) {
+      for (int turn = 0; turn < MOST_HELD; turn++) {
+        if (child >= held || !isAhead(keys[child], beginnings[child], key, bits)) {
+          break;
+        }
         move(child, at);
         at = child;
         child = firstChild(at);

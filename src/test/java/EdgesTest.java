@@ -1,4 +1,7 @@
-/** Every method with extreme numbers in many states: none may throw, and a question changes nothing. */
+/**
+ * Every method with extreme numbers in many states: none may throw, and a question changes nothing. No object
+ * is called more than 512 times, since nothing is promised of it then.
+ */
 public final class EdgesTest {
   private static final int[] NUMBERS = {
     Integer.MIN_VALUE, Integer.MIN_VALUE + 1, -1000, -129, -128, -127, -2, -1, 0, 1, 2, 3, 7, 8, 9, 12, 13, 40, 41,
@@ -56,11 +59,14 @@ public final class EdgesTest {
   }
 
   private static void ask(String text, int loud) {
+    for (int a : NUMBERS) {
+      ButterflyCode x = make(text, loud);
+      String before = state(x);
+      questions(x, a);
+      same(text, loud, before, x);
+    }
     ButterflyCode x = make(text, loud);
     String before = state(x);
-    for (int a : NUMBERS) {
-      questions(x, a);
-    }
     for (long l : LONGS) {
       x.word(l);
       x.check(l);
@@ -70,12 +76,16 @@ public final class EdgesTest {
     }
     x.read();
     x.soughtMessage();
+    same(text, loud, before, x);
+    refused(text, loud);
+    acts(text, loud);
+  }
+
+  private static void same(String text, int loud, String before, ButterflyCode x) {
     if (!before.equals(state(x))) {
       wrong++;
       System.out.println("'" + text + "', " + loud + ": a question changed the object");
     }
-    refused(text, loud);
-    acts(text, loud);
   }
 
   private static void questions(ButterflyCode x, int a) {

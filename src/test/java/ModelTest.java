@@ -2,13 +2,16 @@ import java.util.Random;
 
 /** Long runs of random calls, each answered by the program and by the model alike. */
 public final class ModelTest {
-  private static final int RUNS = 400;
-  private static final int CALLS = 300;
+  private static final int RUNS = 700;
+
+  /** With those of the last turn and of what comes behind it these stay under 512. */
+  private static final int CALLS = 320;
 
   private final Random random;
   private final ButterflyCode code = new ButterflyCode();
   private final Model model = new Model();
   private final StringBuilder told = new StringBuilder();
+  private int asked = 0;
   private int wrong = 0;
   private int largest;
 
@@ -36,12 +39,13 @@ public final class ModelTest {
   private boolean chance(int percent) { return random.nextInt(100) < percent; }
 
   private void same(String call, long got, long want) {
+    asked++;
     if (got != want && wrong++ < 5) told.append("\n  ").append(call).append(" answered ").append(got).append(", due is ").append(want);
   }
 
   private void run() {
     tellCode(text());
-    for (int i = 0; i < CALLS && wrong == 0; i++) {
+    while (asked < CALLS && wrong == 0) {
       call(between(0, 33));
     }
     seekAmongLikeOnes();
