@@ -19,6 +19,7 @@ final class BoundsOfReading {
   static void ask(Due due) {
     BoundsOfReading b = new BoundsOfReading(due);
     b.read();
+    b.atFirst();
     b.frozenAndKept();
     b.sums();
     b.told();
@@ -67,6 +68,32 @@ final class BoundsOfReading {
     }
     due.says(17, "0 without a CODE");
     due.is("no code", Codes.none().read(), 0);
+  }
+
+  /** What an object read ahead, with other codes and lists, is not told of again. */
+  private void atFirst() {
+    due.says(Due.TERMS, "PATHS; at first one, METRIC 0, with the SUMS HEARD");
+    for (int drawn = 0; drawn < 12; drawn++) {
+      ButterflyCode used = Codes.none();
+      int[] sizes = {6, 5, 6, 4, 3, 2, 6, 2, 5, 3};
+      for (int m : sizes) {
+        String text = "size " + m + ";keep " + (1 << m - 1) + ";list " + (drawn % 2 == 0 ? 8 : 1 + m);
+        ButterflyCode fresh = Codes.of(text);
+        Codes.tell(used, text);
+        for (ButterflyCode x : new ButterflyCode[] {used, fresh}) {
+          x.draws(drawn + m);
+          x.send(drawn % 4, 10, 100);
+        }
+        String name = "draws " + drawn + ", '" + text + "'";
+        due.is(name + ": read()", used.read(), fresh.read());
+        due.is(name + ": work(1, true, 2)", used.work(1, true, 2), fresh.work(1, true, 2));
+        due.is(name + ": work(8, true, 3)", used.work(8, true, 3), fresh.work(8, true, 3));
+        due.is(name + ": told(0)", used.told(0), fresh.told(0));
+        due.is(name + ": told(3)", used.told(3), fresh.told(3));
+        due.is(name + ": sought(1)", used.sought(1), fresh.sought(1));
+        due.is(name + ": nearest(0)", used.nearest(0), fresh.nearest(0));
+      }
+    }
   }
 
   private void frozenAndKept() {

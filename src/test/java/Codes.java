@@ -74,12 +74,9 @@ final class Codes {
 
   /** x ahead of a draw: the next draw of k is then this number (below 32768), of k the rest. */
   static int ahead(int number) {
-    long wanted = number * 65536L;
-    long x = 0;
     long inverse = 1;
     // each turn doubles how many of the low bits are right
     for (int i = 0; i < 5; i++) inverse = inverse * (2 - 1103515245L * inverse) & 0x7fffffffL;
-    x = (wanted - 12345L) * inverse & 0x7fffffffL;
-    return (int) x;
+    return (int) ((number * 65536L - 12345L) * inverse & 0x7fffffffL);
   }
 }

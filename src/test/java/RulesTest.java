@@ -94,7 +94,11 @@ public final class RulesTest {
       require(known, "rule 3: type of " + c.getName() + "." + f.getName());
     }
     require(fields <= 20, "rule 11: " + c.getName() + " has " + fields + " fields");
-    for (Method m : c.getDeclaredMethods()) require(m.getParameterCount() <= 7, "rule 11: parameters of " + m.getName());
+    for (Method m : c.getDeclaredMethods()) {
+      require(m.getParameterCount() <= 7, "rule 11: parameters of " + m.getName());
+      boolean ofFace = c == ButterflyCode.class && Modifier.isPublic(m.getModifiers());
+      for (String f : FACE) require(ofFace || !f.contains(" " + m.getName() + "("), "rule 1: " + c.getName() + "." + m.getName() + " bears a public name");
+    }
   }
 
   private static void text(String source) {
