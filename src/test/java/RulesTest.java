@@ -12,10 +12,8 @@ import java.util.HashSet;
 import java.util.List;
 import java.util.Set;
 import java.util.TreeSet;
-import java.util.regex.Matcher;
-import java.util.regex.Pattern;
 
-/** The face, and the rules of LANGUAGE.md as far as reflection and a search of the text can see them. */
+/** The face by reflection, and the rules of LANGUAGE.md (see SourceRules). */
 public final class RulesTest {
   private static final String[] FACE = {
     "int feed(int,int,int,int,int)", "int end(int)", "int code()", "long goodness(int)", "int kept(int)",
@@ -25,6 +23,7 @@ public final class RulesTest {
     "int sought(int)", "long soughtMessage()", "int nearest(int)", "int weights(int)", "int draws(int)",
     "int frames(int,int,int,int)", "int undo()", "int image(int)", "int back(int)", "int count(int)"
   };
+  private static final Path SOURCE = Path.of("src/main/java/ButterflyCode.java");
   private static int wrong = 0;
 
   public static void main(String[] args) throws Exception {
@@ -34,7 +33,8 @@ public final class RulesTest {
     all.addAll(Arrays.asList(ButterflyCode.class.getDeclaredClasses()));
     require(all.size() <= 12, "rule 11: at most twelve classes");
     for (Class<?> c : all) classRules(c);
-    text(Files.readString(Path.of("src/main/java/ButterflyCode.java"), StandardCharsets.UTF_8));
+    for (String what : SourceRules.brokenIn(SOURCE)) require(false, what);
+    signs(Files.readString(SOURCE, StandardCharsets.UTF_8));
     System.out.println("RulesTest: " + wrong + " broken");
     if (wrong != 0) System.exit(1);
   }
@@ -101,36 +101,7 @@ public final class RulesTest {
     }
   }
 
-  private static void text(String source) {
-    String bare = source.replaceAll("(?s)/\\*.*?\\*/", "").replaceAll("//[^\n]*", "").replaceAll("\"[^\"\n]*\"", "\"\"");
-    String[] words = {"throw", "throws", "try", "catch", "finally", "synchronized", "assert", "package", "import", "native", "var", "Exception", "Object", "System\\.(?!arraycopy)\\w+", "\\w*Exact"};
-    for (String w : words) require(!Pattern.compile("\\b" + w + "\\b").matcher(bare).find(), "rule 4 or 6: " + w);
-    require(!bare.contains("->") && !bare.contains("::"), "rule 2: no lambda, no method reference");
-    require(!Pattern.compile("static\\s*\\{").matcher(bare).find(), "rule 5: no static block");
+  private static void signs(String source) {
     for (char ch : source.toCharArray()) require(ch < 128, "rule 4: signs of the text are 1 to 127");
-    Matcher library = Pattern.compile("\\b(Math|Integer|Long)\\.(\\w+)").matcher(bare);
-    while (library.find()) require(Set.of("max", "min", "abs", "bitCount", "numberOfTrailingZeros").contains(library.group(2)), "rule 4: " + library.group());
-    methods(bare);
-    rooms(bare);
-  }
-
-  private static void methods(String bare) {
-    Matcher head = Pattern.compile("(?m)^( {2}| {4})(?=\\S)[^=;\n]*\\)\\s*\\{$").matcher(bare);
-    while (head.find()) {
-      String close = "\n" + head.group(1) + "}";
-      int lines = bare.substring(head.start(), Math.max(head.start(), bare.indexOf(close, head.start()))).split("\n").length;
-      require(lines <= 60, "rule 11: " + lines + " lines: " + head.group().trim());
-    }
-  }
-
-  /** Calls make nothing: all rows are made with the object, so that a long run stays in its room. */
-  private static void rooms(String bare) {
-    Matcher made = Pattern.compile("(?m)^.*\\bnew\\b.*$").matcher(bare);
-    while (made.find()) {
-      String line = made.group().trim();
-      boolean field = line.matches("(private )?(static )?(final )?[\\w\\[\\]]+ \\w+ = new .*;");
-      boolean filled = line.equals("past[i] = new State();") || line.equals("images[i] = new State();");
-      require(field && !line.startsWith("int ") && !line.startsWith("long ") || filled, "rule 12: made in a call: " + line);
-    }
   }
 }
